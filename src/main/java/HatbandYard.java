@@ -401,7 +401,7 @@ public final class HatbandYard {
         BRIM("brim", 9, false);
 
         private static final int FIRST_ROW = 6;
-        // A cone's gain of 4, the least that stays, has 2000 stitches in its row 500.
+        // The least gain that stays, a cone's 4, reaches the 2000 stitches that may be asked in row 500.
         private static final int MOST_ROWS = 1000;
 
         private final String word;

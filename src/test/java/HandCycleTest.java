@@ -93,6 +93,21 @@ final class HandCycleTest {
         }
         Check.due("15 cycles of wool", wool.air(0, true), 30);
         Check.throwing(wool, "the sixteenth", Check.STATE, () -> wool.cycle(1, 0));
+        airOfSeveralFurs();
+    }
+
+    private static void airOfSeveralFurs() {
+        HatbandYard yard = yardOf("wool", 1);
+        yard.cone(0, 100, 0);
+        Check.lotOf(yard, "beaver", 100);
+        yard.cone(1, 100, 0);
+        for (int made = 0; made < 13; made++) {
+            yard.cycle(made % 2, 0);
+        }
+        Check.throwing(yard, "26 and 5 are 31", Check.STATE, () -> yard.cycle(2, 0));
+        yard.cycle(0, 0);
+        yard.cycle(0, 0);
+        Check.due("26, 2 and 2 are 30", yard.air(0, true), 30);
     }
 
     private static void airIsOfTodayOrOfAllDays() {

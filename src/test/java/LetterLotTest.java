@@ -34,14 +34,14 @@ final class LetterLotTest {
     }
 
     private static void eighthLetterIsRefused() {
-        HatbandYard yard = Check.type(new HatbandYard(), "ostrich");
+        HatbandYard yard = new HatbandYard();
+        Check.lotOf(yard, "wool", 10);
+        yard.cone(0, 10, 0);
+        Check.type(yard, "ostrich");
         Check.throwing(yard, "eighth letter", Check.STATE, () -> yard.letter('a'));
         Check.throwing(yard, "eighth letter, none", Check.ARGUMENT, () -> yard.letter('A'));
-        yard.hand();
-        HatbandYard full = Check.type(yard, "");
-        int lot = full.lot(1);
-        Check.due("ostrich is no fur", lot, HatbandYard.NONE);
-        Check.due("letter after the word went", full.letter('a'), 1);
+        Check.due("ostrich stays typed", yard.trim(0), true);
+        Check.due("letter after the word went", yard.letter('a'), 1);
     }
 
     private static void eachFurIsBought() {
