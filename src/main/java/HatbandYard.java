@@ -479,7 +479,7 @@ public final class HatbandYard {
     }
 
     private static final class Block {
-        private static final int LEAST_STEP = 50;
+        private static final int NARROWEST = 50;
 
         private final int size;
         private final int depth;
@@ -489,11 +489,10 @@ public final class HatbandYard {
             this.depth = depth;
         }
 
-        // The "at least 50" of the document is read of the step from band to band: of the width it
-        // would never tell anything, since no block would come below half of its size.
+        // The document's "at least 50" is said of the width; even 300, 1 only goes down to 150.
         private int widthFor(int band) {
-            int step = Math.max(LEAST_STEP, size / 10);
-            return size - step * Math.max(0, band - depth + 1);
+            int bandsAboveDepth = Math.max(0, band - depth + 1);
+            return Math.max(NARROWEST, size - size / 10 * bandsAboveDepth);
         }
     }
 

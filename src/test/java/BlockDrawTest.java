@@ -6,7 +6,9 @@ final class BlockDrawTest {
         ninthBlockIsRefused();
         drawnOverABlock();
         drawnAgainDownwards();
-        eachFurBearsSomeBlocks();
+        widthsOfLeastAndMost();
+        furThatBearsABlock();
+        everyBlockOnEachFur();
         holesComeFirst();
         strainOfTheEdge();
         tornAheadOfTooWide();
@@ -68,48 +70,122 @@ final class BlockDrawTest {
         Check.widths(yard, 0, 700, 630, 560, 490, 420, 350);
     }
 
-    // Below 510 a tenth is at most 50, so the step from band to band is 50.
+    private static int[] widthsOfBlock(int size, int depth) {
+        int[] widths = new int[6];
+        for (int band = 0; band < 6; band++) {
+            widths[band] = band < depth ? size : widths[band - 1] - size / 10;
+        }
+        return widths;
+    }
+
+    // Each size is the least that the cone bears after the one ahead of it.
     private static void drawnAgainDownwards() {
-        HatbandYard yard = yardOf("hare", 500, 0, 12);
-        Check.widths(yard, 0, 498, 435, 372, 308, 246, 184);
-        int[] sizes = {463, 449, 435, 422, 409, 397, 386, 376};
+        HatbandYard yard = yardOf("hare", 500, 0, 7);
+        Check.widths(yard, 0, 719, 629, 539, 448, 358, 267);
+        int[] sizes = {670, 623, 579, 538, 503, 467, 435, 404};
         for (int block = 0; block < sizes.length; block++) {
             int size = sizes[block];
             yard.block(size, 1);
             Check.due("draw over " + size, yard.draw(0, block), 0);
-            Check.widths(yard, 0, size, size - 50, size - 100, size - 150, size - 200, size - 250);
+            Check.widths(yard, 0, widthsOfBlock(size, 1));
         }
-        Check.due("back over 409: band 5 from 126 to 159, 26 of 100", yard.draw(0, 4), 2);
-        Check.widths(yard, 0, 376, 326, 276, 226, 176, 126);
-        Check.due("back over 397: band 5 from 126 to 147, 16 of 100", yard.draw(0, 5), 0);
-        Check.widths(yard, 0, 397, 347, 297, 247, 197, 147);
+        Check.due("back over 538: band 5 from 204 to 273, 33 of 100", yard.draw(0, 3), 2);
+        Check.widths(yard, 0, 404, 364, 324, 284, 244, 204);
+        Check.due("back over 503: band 5 from 204 to 253, 24 of 100", yard.draw(0, 4), 0);
+        Check.widths(yard, 0, 503, 453, 403, 353, 303, 253);
+        Check.due("down over 404: 503 shrunk is 467", yard.draw(0, 7), 3);
+        Check.widths(yard, 0, 503, 453, 403, 353, 303, 253);
     }
 
-    private static void drawnWithin(String fur, int cycles, int depth, int least, int most) {
-        int[] due = {3, 0, 0, 2};
-        int[] sizes = {least - 1, least, most, most + 1};
-        for (int i = 0; i < sizes.length; i++) {
-            HatbandYard yard = yardOf(fur, 500, 3, cycles);
-            yard.block(sizes[i], depth);
-            String draw = fur + " after " + cycles + " over " + sizes[i] + ", " + depth;
-            Check.due(draw, yard.draw(0, 0), due[i]);
-            int step = Math.max(50, sizes[i] / 10);
-            for (int band = 0; band < 6 && due[i] == 0; band++) {
-                int want = sizes[i] - step * Math.max(0, band - depth + 1);
-                Check.due(draw + ", band " + band, yard.about(0, band, 0), want);
-                Check.due(draw + ", anew, band " + band, yard.widthAnew(0, band), want);
+    // A tenth of the size, rounded down, and no more than that, also where it is below 50.
+    private static void widthsOfLeastAndMost() {
+        tornAtTheTip("wool", 310);
+        tornAtTheTip("wool", 300);
+        tornAtTheTip("rabbit", 402);
+        tornAtTheTip("hare", 463);
+        drawnDownTo(373, 336, 299, 262, 225, 188);
+        drawnDownTo(379, 342, 305, 268, 231, 194);
+        drawnDownTo(380, 342, 304, 266, 228, 190);
+        drawnDownTo(389, 351, 313, 275, 237, 199);
+        drawnDownTo(390, 351, 312, 273, 234, 195);
+    }
+
+    private static void tornAtTheTip(String fur, int size) {
+        HatbandYard yard = yardOf(fur, 500, 0, 12);
+        yard.block(size, 1);
+        Check.due(fur + " after 12 over " + size, yard.draw(0, 0), 2);
+    }
+
+    private static void drawnDownTo(int... due) {
+        HatbandYard yard = yardOf("hare", 500, 0, 8);
+        int[] sizes = {621, 577, 536, 498, 465, 433, 402, due[0]};
+        for (int block = 0; block < sizes.length; block++) {
+            yard.block(sizes[block], 1);
+            Check.due("down over " + sizes[block], yard.draw(0, block), 0);
+        }
+        Check.widths(yard, 0, due);
+        Check.due("brim on the edge", yard.brim(0, 100), Float.floatToIntBits(200f * 3.14159f / due[0]));
+    }
+
+    private static void drawnOrNot(String fur, int cycles, int size, int due) {
+        HatbandYard yard = yardOf(fur, 500, 3, cycles);
+        yard.block(size, 1);
+        String draw = fur + " after " + cycles + " over " + size;
+        int[] before = {0, 0, 0, 0, 0, 0};
+        for (int band = 0; band < 6; band++) {
+            before[band] = yard.about(0, band, 0);
+        }
+        Check.due(draw, yard.draw(0, 0), due);
+        Check.widths(yard, 0, due == 0 ? widthsOfBlock(size, 1) : before);
+    }
+
+    // Beaver and hare bear these alone, and of depth 1 alone; wool and rabbit tear or are too wide.
+    private static void furThatBearsABlock() {
+        drawnOrNot("beaver", 10, 679, 3);
+        drawnOrNot("beaver", 10, 680, 0);
+        drawnOrNot("beaver", 11, 645, 3);
+        drawnOrNot("beaver", 11, 646, 0);
+        drawnOrNot("beaver", 11, 676, 0);
+        drawnOrNot("beaver", 11, 677, 2);
+        drawnOrNot("beaver", 11, 679, 2);
+        drawnOrNot("beaver", 11, 680, 0);
+        drawnOrNot("beaver", 11, 681, 0);
+        drawnOrNot("beaver", 11, 682, 2);
+        drawnOrNot("beaver", 12, 612, 3);
+        drawnOrNot("beaver", 12, 613, 0);
+        drawnOrNot("hare", 7, 669, 2);
+        drawnOrNot("hare", 7, 670, 0);
+        drawnOrNot("hare", 7, 671, 0);
+        drawnOrNot("hare", 7, 672, 2);
+        drawnOrNot("hare", 8, 620, 3);
+        drawnOrNot("hare", 8, 621, 0);
+        drawnOrNot("hare", 8, 622, 0);
+        drawnOrNot("hare", 8, 623, 2);
+    }
+
+    // The due numbers were counted apart from this, by the document's words in another language.
+    private static void everyBlockOnEachFur() {
+        answersOf("rabbit", 500, 3, 0, 0, 17881, 13397);
+        answersOf("wool", 500, 3, 0, 0, 21234, 10044);
+        answersOf("beaver", 500, 3, 84, 0, 9322, 21872);
+        answersOf("hare", 500, 3, 4, 0, 15361, 15913);
+        answersOf("beaver", 150, 0, 84, 4812, 9035, 17347);
+    }
+
+    // All sizes and depths of blocks, each on a new cone of 0 to 12 cycles.
+    private static void answersOf(String fur, int grams, int taper, int... due) {
+        int[] told = new int[4];
+        for (int cycles = 0; cycles <= 12; cycles++) {
+            for (int size = 300; size <= 700; size++) {
+                for (int depth = 1; depth <= 6; depth++) {
+                    HatbandYard yard = yardOf(fur, grams, taper, cycles);
+                    told[yard.draw(0, yard.block(size, depth))]++;
+                }
             }
         }
-    }
-
-    // Over a block one less wide some band is too wide still, over one more wide a band is torn.
-    private static void eachFurBearsSomeBlocks() {
-        drawnWithin("wool", 10, 1, 387, 427);
-        drawnWithin("wool", 10, 2, 373, 377);
-        drawnWithin("rabbit", 11, 1, 437, 464);
-        drawnWithin("rabbit", 12, 1, 402, 446);
-        drawnWithin("hare", 12, 1, 463, 481);
-        drawnWithin("beaver", 11, 1, 646, 681);
+        for (int answer = 0; answer < 4; answer++) {
+            Check.due(fur + " of " + grams + ", times that draw told " + answer, told[answer], due[answer]);
+        }
     }
 
     private static void holesComeFirst() {

@@ -6,6 +6,7 @@ final class HeadBrimTest {
         aroundAHead();
         measureRefuses();
         aConeFits();
+        aDrawnConeFits();
         sizesOfLands();
         sizeRefuses();
         Check.end("HeadBrimTest");
@@ -106,6 +107,27 @@ final class HeadBrimTest {
         Check.throwing(yard, "fits 1", Check.INDEX, () -> yard.fits(1));
         Check.throwing(yard, "fits 12", Check.INDEX, () -> yard.fits(12));
         Check.throwing(yard, "fits at the least", Check.INDEX, () -> yard.fits(Integer.MIN_VALUE));
+    }
+
+    // The edge that counts is that of the block: 700, not the 716 that the cone had before.
+    private static void aDrawnConeFits() {
+        HatbandYard yard = yardOf("beaver");
+        Check.cycles(yard, 0, 0, 10);
+        yard.block(700, 1);
+        yard.draw(0, 0);
+        for (int radius = 0; radius < 8; radius++) {
+            yard.measure(radius, 110);
+        }
+        int[] lengths = {105, 106, 121, 122};
+        int[] around = {686, 687, 699, 700};
+        for (int i = 0; i < lengths.length; i++) {
+            Check.due("around with " + lengths[i], yard.measure(0, lengths[i]), around[i]);
+            Check.due("700 fits " + around[i], yard.fits(0), around[i] >= 688);
+        }
+        Check.due("around with 107", yard.measure(0, 107), 688);
+        Check.due("700 fits 688", yard.fits(0), true);
+        Check.due("around with 123", yard.measure(0, 123), 701);
+        Check.due("700 fits 701", yard.fits(0), false);
     }
 
     private static void sizesOfLands() {

@@ -300,7 +300,7 @@ final class ModelTest {
             state(blocks.size() < 8);
             int[] widths = new int[6];
             for (int band = 0; band < 6; band++) {
-                widths[band] = band < depth ? size : widths[band - 1] - (size / 10 < 50 ? 50 : size / 10);
+                widths[band] = band < depth ? size : Math.max(50, widths[band - 1] - size / 10);
             }
             blocks.add(widths);
             return blocks.size() - 1;
