@@ -17,6 +17,10 @@ final class ModelTest {
 
     private static long seed = 20261119L;
 
+    private interface Question {
+        long ask();
+    }
+
     public static void main(String[] args) {
         for (int run = 0; run < RUNS; run++) {
             run(run);
@@ -57,7 +61,7 @@ final class ModelTest {
         int tendency = below(4);
         for (int call = 0; call < CALLS; call++) {
             if (model.typed.isEmpty() && below(3) == 0) {
-                call += type(yard, model, WORDS[below(WORDS.length)]);
+                call += type(yard, model, WORDS[below(WORDS.length)], CALLS - 1 - call);
             }
             int method = method(tendency, call);
             int[] arguments = arguments(model, method);
@@ -83,15 +87,16 @@ final class ModelTest {
         return tendency == 1 ? 4 : tendency == 2 ? 6 : below(3) == 0 ? 5 : 6;
     }
 
-    private static int type(HatbandYard yard, Model model, String word) {
-        for (int i = 0; i < word.length(); i++) {
+    private static int type(HatbandYard yard, Model model, String word, int callsLeft) {
+        int letters = Math.min(callsLeft, word.length());
+        for (int i = 0; i < letters; i++) {
             char letter = word.charAt(i);
             Check.due("letter", asked(() -> yard.letter(letter)), asked(() -> model.letter(letter)));
         }
-        return word.length();
+        return letters;
     }
 
-    private static long asked(Check.Question question) {
+    private static long asked(Question question) {
         try {
             return question.ask();
         } catch (RuntimeException e) {
@@ -104,7 +109,7 @@ final class ModelTest {
         switch (method) {
             case 0: return new int[] {below(30) == 0 ? below(65536) : 'a' + below(26)};
             case 1: return new int[] {within(1, 5000)};
-            case 2: return new int[] {one(model.lots.size()), below(3) == 0 ? within(10, 500) : within(130, 500), within(0, 5)};
+            case 2: return new int[] {one(model.lots.size()), within(below(3) == 0 ? 10 : 130, 500), within(0, 5)};
             case 4: return new int[] {cone, one(model.hands.size())};
             case 5: return sizeAndDepth(model);
             case 6: return new int[] {cone, one(model.blocks.size())};
@@ -364,7 +369,8 @@ final class ModelTest {
         private static int inRow(String kind, int row) {
             int inRow = 6;
             for (int at = 2; at <= row; at++) {
-                inRow += kind.equals("flat") ? 6 : kind.equals("cone") ? 4 : kind.equals("brim") ? 9 : at < 18 ? 6 - at / 3 : 0;
+                inRow += kind.equals("flat") ? 6 : kind.equals("cone") ? 4 : kind.equals("brim") ? 9
+                    : at < 18 ? 6 - at / 3 : 0;
             }
             return inRow;
         }
