@@ -330,6 +330,7 @@ final class BlockDrawTest {
     }
 
     // A band of 9 grams and 33 high is 43 thick where it is 630 wide, and 38 where it is 700 wide.
+    /** "if it has no hole", "also if it was drawn over one before": the widths that a draw gave count for the next. */
     private static void aHoleComesWithADraw() {
         Yard yard = Yard.withCone("beaver", 55, 0, 10);
         yard.block(700, 1);

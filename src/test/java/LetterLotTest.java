@@ -171,7 +171,7 @@ final class LetterLotTest {
         yard.refuses("grams of lot 10", Check.INDEX, y -> y.grams(10));
     }
 
-    /** By its plain words the state is told whatever word is typed. */
+    /** "IllegalStateException if there are 10" names no word: the state is told whatever is typed. */
     private static void noFurWhereThereAreTenLots() {
         Yard yard = withTenLots();
         yard.refuses("eleventh lot of no word", Check.STATE, y -> y.lot(1));
